@@ -17,7 +17,8 @@ public final class PromiseTests {
         try {
             got = call.answer();
         } catch (RuntimeException e) {
-            got = "throws." + e.getClass().getSimpleName();
+            boolean isOwn = e.getStackTrace()[0].getClassName().startsWith("PerfgaugeHouse");
+            got = (isOwn ? "throws." : "the machine throws ") + e.getClass().getSimpleName();
         }
         asked++;
         if (!got.equals(due)) {
@@ -598,8 +599,20 @@ public final class PromiseTests {
         due(24, 18, () -> x.ofCover(4, 0));
         x.cover(0, 0, 4, 0, 30);
         due(24, 128, () -> x.ofCover(5, 0));
-        due(24, INDEX, () -> x.ofCover(6, 8));
+        // The first and the last DAYS of a DIE and of ISSUES are good ones.
+        x.cover(0, 1, 4, 0, 10);
+        x.stick(6, 0, 4);
+        due(24, 32, () -> x.ofCover(6, 0));
+        x.cover(0, 1, 4, 0, 20);
+        x.stick(7, 0, 1);
+        x.stick(7, 1, 1);
+        due(24, 0, () -> x.ofCover(7, 0));
+        x.cover(0, 1, 4, 0, 15);
+        x.stick(8, 1, 1);
+        due(24, 16, () -> x.ofCover(8, 0));
+        due(24, INDEX, () -> x.ofCover(9, 8));
         due(24, INDEX, () -> x.ofCover(-1, 0));
+        due(25, INDEX, () -> x.franking(12));
         due(24, ARGUMENT, () -> x.ofCover(0, 8));
         due(24, ARGUMENT, () -> x.ofCover(0, -1));
     }

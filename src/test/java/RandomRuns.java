@@ -203,7 +203,9 @@ public final class RandomRuns {
                 try {
                     return method.invoke(on, values);
                 } catch (InvocationTargetException e) {
-                    return "throws." + e.getCause().getClass().getSimpleName();
+                    Throwable thrown = e.getCause();
+                    boolean isOwn = thrown.getStackTrace()[0].getClassName().equals(on.getClass().getName());
+                    return (isOwn ? "throws." : "the machine throws ") + thrown.getClass().getSimpleName();
                 } catch (IllegalAccessException e) {
                     return e.toString();
                 }
