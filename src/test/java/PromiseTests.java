@@ -1,33 +1,5 @@
 /** For each promise of the document: ordinary inputs, the edges that it names, and wrong inputs. */
-public final class PromiseTests {
-    private interface Call {
-        Object answer();
-    }
-
-    private static final String INDEX = "throws.IndexOutOfBoundsException";
-    private static final String ARGUMENT = "throws.IllegalArgumentException";
-    private static final String STATE = "throws.IllegalStateException";
-
-    private static int asked = 0;
-    private static int wrong = 0;
-
-    /** Whether a call answers what is due (an exception by its name). */
-    private static void due(int promise, Object due, Call call) {
-        Object got;
-        try {
-            got = call.answer();
-        } catch (RuntimeException e) {
-            boolean isOwn = e.getStackTrace()[0].getClassName().startsWith("PerfgaugeHouse");
-            got = (isOwn ? "throws." : "the machine throws ") + e.getClass().getSimpleName();
-        }
-        asked++;
-        if (!got.equals(due)) {
-            wrong++;
-            StackTraceElement at = new Throwable().getStackTrace()[1];
-            System.out.println("promise " + promise + ", line " + at.getLineNumber() + ": answered " + got + ", due is " + due);
-        }
-    }
-
+public final class PromiseTests extends Answers {
     public static void main(String[] args) {
         theNewHouse();
         plates();
@@ -58,14 +30,7 @@ public final class PromiseTests {
         frames();
         soundness();
         digests();
-        System.out.println(wrong == 0 ? asked + " answers are as due" : wrong + " of " + asked + " are not as due");
-        System.exit(wrong == 0 ? 0 : 1);
-    }
-
-    private static PerfgaugeHouse house(int wide, int high) {
-        PerfgaugeHouse x = new PerfgaugeHouse();
-        x.plate(wide, high);
-        return x;
+        end();
     }
 
     private static long mixed(long... numbers) {
