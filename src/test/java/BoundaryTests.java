@@ -49,6 +49,7 @@ public final class BoundaryTests extends Answers {
         fortyBids();
         countingBids();
         sales();
+        salesAskedBetween();
         steps();
         onesAlone();
         gains();
@@ -557,6 +558,25 @@ public final class BoundaryTests extends Answers {
         y.tear(1, 1, 23, 7, 5);
         due(23, () -> y.ofPiece(0, 4));
         due(1 << 23, () -> y.plating(5, 3));
+        about("how many PIECES of a SHEET are CERTAIN: none to all three");
+        PerfgaugeHouse three = house(3, 2);
+        for (int position = 0; position < 3; position++) three.flaw(position * 2, position, 0, 7);
+        for (int piece = 0; piece < 3; piece++) {
+            int p = piece;
+            three.piece(1, 1, 3, false);
+            three.seen(p, 0, 1 << p, true);
+            due(p + 1, () -> three.plating(3, 2));
+            due(p * 2, () -> three.ofPiece(p, 4));
+        }
+        due(21, () -> three.plating(3, 3));
+        due("0.1/.2.", () -> three.sheet(3));
+        three.seen(1, 0, 0, false);
+        due(2, () -> three.plating(3, 2));
+        three.seen(0, 0, 0, true);
+        due(1, () -> three.plating(3, 2));
+        due(4, () -> three.ofPiece(2, 4));
+        three.seen(2, 0, 0, true);
+        due(0, () -> three.plating(3, 2));
         about("CERTAIN by the other PIECES alone");
         PerfgaugeHouse z = house(2, 2);
         z.flaw(3, 0, 0, 0);
@@ -823,6 +843,20 @@ public final class BoundaryTests extends Answers {
         x.road(1, 2, 0);
         due(30, () -> x.ofCover(2, 2));
         due(10, () -> x.ofCover(0, 2));
+        about("DISTANCE of each two TOWNS");
+        PerfgaugeHouse y = threeRates();
+        y.road(0, 2, 4);
+        y.road(0, 5, 3);
+        y.road(1, 3, 3);
+        y.road(3, 4, 1);
+        int[] far = {10, 30, 30, 30, 30, 20, 30, 10, 30, 20, 30, 30, 30, 30, 10, 30, 30, 30,
+            30, 20, 30, 10, 20, 30, 30, 30, 30, 20, 10, 30, 20, 30, 30, 30, 30, 10};
+        for (int pair = 0; pair < 36; pair++) {
+            if (pair % 12 == 0) y.plate(2, 2);
+            int p = pair;
+            int number = y.cover(p / 6, p % 6, 1, 0, 0);
+            due(far[p], () -> y.ofCover(number, 2));
+        }
     }
 
     private static void sixteenRates() {
@@ -961,6 +995,10 @@ public final class BoundaryTests extends Answers {
         for (int i = 0; i < 10; i++) y.stick(0, i, 4);
         due(3960, () -> y.ofCover(0, 1));
         due(40, () -> y.ofCover(0, 5));
+        due(1 << 5, () -> y.ofCover(0, 0));
+        due(100, () -> y.ofIssue(0, true));
+        due(100, () -> y.ofIssue(9, true));
+        due(4, () -> y.ofIssue(9, false));
         y.rate(0, 2, 1, 5);
         y.rate(0, 2, 3, 6);
         for (int weight = 1; weight <= 4; weight++) {
@@ -1685,6 +1723,53 @@ public final class BoundaryTests extends Answers {
         due(79984, () -> greatest.ofSale(4));
     }
 
+    private static void salesAskedBetween() {
+        about("the SALE is that of the ITEMS and BIDS that there are, whatever was asked before");
+        PerfgaugeHouse x = auction(1, 0);
+        x.bid(0, 1, 7);
+        due(7, () -> x.ofSale(0));
+        x.piece(1, 1, 0, false);
+        x.item(false, 1, 0);
+        due(7, () -> x.ofSale(0));
+        due(1, () -> x.ofSale(2));
+        x.bid(0, 2, 5);
+        due(12, () -> x.ofSale(0));
+        due(2, () -> x.ofSale(1));
+        x.bid(1, 3, 12);
+        due(1, () -> x.ofSale(1));
+        x.opine(0, 0, false);
+        due(5, () -> x.ofSale(0));
+        due(1, () -> x.ofSale(1));
+        due(1, () -> x.ofSale(3));
+        x.opine(0, 0, true);
+        due(12, () -> x.ofSale(0));
+        due(2, () -> x.ofSale(3));
+        x.plate(2, 2);
+        due(0, () -> x.ofSale(0));
+        due(-1, () -> x.ofSale(3));
+        due(0, () -> x.ofSale(4));
+        x.piece(1, 1, 0, false);
+        x.item(false, 0, 0);
+        due(-1, () -> x.alone(0, true));
+        x.bid(2, 1, 3);
+        due(true, () -> x.isSound());
+        due(2, () -> x.alone(0, true));
+        due(3, () -> x.ofSale(0));
+        about("isSound() is asked of the SALE as it is now");
+        PerfgaugeHouse y = auction(1, 0);
+        y.bid(0, 1, 500);
+        y.bid(1, 1, 500);
+        due(0, () -> y.ofSale(4));
+        y.opine(0, 0, false);
+        due(true, () -> y.isSound());
+        y.pass(301);
+        due(true, () -> y.isSound());
+        y.bid(2, 1, 9999);
+        y.bid(3, 1, 9998);
+        due(true, () -> y.isSound());
+        due(0, () -> y.ofSale(4));
+    }
+
     /** What one pays, who bids 9999, if another one bids this. */
     private static int paidOver(int amount) {
         PerfgaugeHouse x = auction(1, 0);
@@ -2058,6 +2143,13 @@ public final class BoundaryTests extends Answers {
         for (int i = 0; i < 20; i++) x.opine(0, 0, false);
         for (int i = 0; i < 8; i++) x.item(false, i, 0);
         for (int i = 0; i < 40; i++) x.bid(0, 1, 1);
+        x.flaw(5, 5, 5, 5);
+        x.seen(2, 0, 32, false);
+        x.seen(11, 0, 64, false);
+        due(32, () -> x.plating(0, 1));
+        due(32, () -> x.plating(0, 3));
+        due(0, () -> x.plating(3, 1));
+        due(0, () -> x.ofSale(5));
         x.pass(9);
         due(4, () -> x.plate(2, 2));
         due(INDEX, () -> x.ofPiece(0, 0));
@@ -2067,8 +2159,15 @@ public final class BoundaryTests extends Answers {
         due(0, () -> x.ofSale(5));
         due(0, () -> x.ofIssue(0, false));
         due(0, () -> x.ofIssue(0, true));
-        due(8, () -> x.plating(0, 0));
-        due(0, () -> x.plating(3, 4));
+        for (int sheet = 0; sheet < 6; sheet++) {
+            int q = sheet;
+            due(8, () -> x.plating(q, 0));
+            due(255, () -> x.plating(q, 1));
+            due(0, () -> x.plating(q, 2));
+            due(0, () -> x.plating(q, 3));
+            due(0, () -> x.plating(q, 4));
+            due("../..", () -> x.sheet(q));
+        }
         due(0, () -> x.frame(40, true));
         due(0, () -> x.piece(1, 1, 0, false));
         due(32, () -> x.ofPiece(0, 2));
@@ -2195,6 +2294,15 @@ public final class BoundaryTests extends Answers {
         x.bid(3, 2, 20);
         x.bid(4, 4, 9999);
         compareChecksum(x, 7, flaws, 6);
+        about("digest: frame() of 6, VALUES and set");
+        PerfgaugeHouse eight = house(4, 2);
+        for (int i = 0; i < 8; i++) eight.flaw(i, i, 0, 7);
+        for (int i = 0; i < 8; i++) eight.tear(1, 1, i, 0, i / 3);
+        due(70 * 6, () -> eight.frame(6, false));
+        due(63, () -> eight.frame(6, true));
+        due(70 * 5, () -> eight.frame(5, false));
+        due(127, () -> eight.frame(7, true));
+        compareChecksum(eight, 0, 8, 8);
     }
 
     private static void compareChecksum(PerfgaugeHouse x, int today, int flaws, int positions) {
