@@ -26,6 +26,17 @@ public final class LanguageRules {
     private static final int MOST_CLASSES = 12;
     private static final int MOST_FIELDS = 20;
     private static final int MOST_LINES = 60;
+    /** Of what the library lets, all that the class needs. */
+    private static final Set<String> LIBRARY = Set.of("Object.<init>", "ArrayList.<init>", "ArrayList.add", "ArrayList.get",
+            "ArrayList.size", "ArrayList.isEmpty", "ArrayList.clear", "Arrays.fill", "System.arraycopy", "Integer.bitCount",
+            "Long.bitCount", "Math.min", "Math.max", "Math.abs", "StringBuilder.<init>", "StringBuilder.append",
+            "StringBuilder.toString");
+    private static final Set<String> EXCEPTIONS = Set.of("IndexOutOfBoundsException.<init>",
+            "IllegalArgumentException.<init>", "IllegalStateException.<init>");
+    private static final Set<String> THROWERS = Set.of("PerfgaugeHouse.checkThere", "PerfgaugeHouse.checkGiven",
+            "PerfgaugeHouse.checkState");
+    /** It goes one call deeper for each PIECE of a SHEET, so three at the most. */
+    private static final Set<String> CALLS_ITSELF = Set.of("PerfgaugeHouse$Sheet.placeFrom");
 
     private static int wrong = 0;
 
@@ -137,6 +148,8 @@ public final class LanguageRules {
         ToolProvider.findFirst("javap").orElseThrow().run(out, out, arguments.toArray(new String[0]));
         Map<String, Set<String>> calls = readCalls(told.toString());
         check(calls.size() > 100, "calls are read: " + calls.size());
+        checkInstructions(told.toString());
+        checkRecursion(calls);
         Map<String, Integer> depths = new HashMap<>();
         int deepest = 0;
         String where = "";
@@ -151,24 +164,64 @@ public final class LanguageRules {
         check(deepest <= MOST_DEPTH, "calls that are no recursion go at most eight deep");
     }
 
+    /** Exceptions come from the three methods that check alone, the library is what is listed, nothing is caught. */
+    private static void checkInstructions(String told) {
+        for (String word : List.of("Exception table", "invokedynamic", "monitorenter", "multianewarray", "putstatic")) {
+            check(!told.contains(word), "none of it: " + word);
+        }
+        Pattern call = Pattern.compile("// (?:Interface)?Method (java/[\\w/]+)\\.\"?([\\w<>$]+)\"?:");
+        Pattern cast = Pattern.compile("(?:checkcast|anewarray).*// class \"?([^\"]+)");
+        String method = "";
+        for (String line : told.split("\n")) {
+            method = methodAfter(method, line);
+            Matcher called = call.matcher(line);
+            if (called.find()) {
+                String name = called.group(1).replaceAll(".*/", "") + "." + called.group(2);
+                boolean isThrower = THROWERS.contains(method) && EXCEPTIONS.contains(name);
+                check(LIBRARY.contains(name) || isThrower, "library: " + name + " in " + method);
+            }
+            check(!line.contains("athrow") || THROWERS.contains(method), "no throw in " + method);
+            Matcher made = cast.matcher(line);
+            if (made.find()) check(made.group(1).startsWith("PerfgaugeHouse$"), "casts and arrays of own classes: " + line);
+        }
+    }
+
+    /** No method comes back to itself but the one that carries its depth. */
+    private static void checkRecursion(Map<String, Set<String>> calls) {
+        for (String method : calls.keySet()) {
+            Set<String> reached = new HashSet<>();
+            List<String> open = new ArrayList<>(calls.get(method));
+            while (!open.isEmpty()) {
+                String next = open.remove(open.size() - 1);
+                if (reached.add(next)) open.addAll(calls.getOrDefault(next, Set.of()));
+            }
+            check(!reached.contains(method) || CALLS_ITSELF.contains(method), "it calls itself: " + method);
+        }
+    }
+
+    private static final Pattern TYPE = Pattern.compile("class ([\\w$]+) ");
+    private static final Pattern HEAD = Pattern.compile("^  [^ ].*?([\\w$]+)\\((.*)\\).*;$");
+
+    /** In which method what javap tells is after this line, if it was in that one before. */
+    private static String methodAfter(String before, String line) {
+        Matcher opened = TYPE.matcher(line);
+        if (!line.startsWith(" ") && opened.find()) return opened.group(1) + ".";
+        Matcher headed = HEAD.matcher(line);
+        if (!headed.find()) return before;
+        String type = before.substring(0, before.indexOf('.'));
+        return type + "." + (headed.group(1).equals(type) ? "<init>" : headed.group(1));
+    }
+
     private static Map<String, Set<String>> readCalls(String told) {
         Map<String, Set<String>> calls = new HashMap<>();
-        String type = "";
         String method = "";
-        Pattern head = Pattern.compile("^  [^ ].*?([\\w$]+)\\((.*)\\).*;$");
         Pattern call = Pattern.compile("// Method (?:([\\w$/]+)\\.)?\"?([\\w<>$]+)\"?:");
         for (String line : told.split("\n")) {
-            Matcher opened = Pattern.compile("class ([\\w$]+) ").matcher(line);
-            if (!line.startsWith(" ") && opened.find()) type = opened.group(1);
-            Matcher headed = head.matcher(line);
-            if (headed.find()) {
-                String name = headed.group(1);
-                method = type + "." + (name.equals(type) ? "<init>" : name);
-                calls.put(method, new HashSet<>());
-            }
+            method = methodAfter(method, line);
+            if (HEAD.matcher(line).find()) calls.put(method, new HashSet<>());
             Matcher called = call.matcher(line);
             if (called.find() && calls.containsKey(method)) {
-                String of = called.group(1) == null ? type : called.group(1);
+                String of = called.group(1) == null ? method.substring(0, method.indexOf('.')) : called.group(1);
                 if (of.startsWith("PerfgaugeHouse")) calls.get(method).add(of + "." + called.group(2));
             }
         }
