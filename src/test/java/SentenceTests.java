@@ -941,6 +941,30 @@ public final class SentenceTests extends Answers {
         due(true, () -> x.ofSale(4) >= 0);
         x.plate(6, 4);
         due(true, () -> x.isSound());
+        about("isSound: TRUST is 0 to 9, with both");
+        PerfgaugeHouse y = house(3, 3);
+        for (int i = 0; i < 9; i++) {
+            int piece = i;
+            y.piece(1, 1, piece / 3, false);
+            y.opine(piece, 0, piece % 2 == 0);
+            y.opine(piece, 1, piece % 2 != 0);
+            due(1, () -> y.truth(piece, piece % 2 == 0));
+            due(true, () -> y.isSound());
+        }
+        due(9, () -> y.trust(0));
+        due(0, () -> y.trust(1));
+        about("isSound: a PIECE that is CERTAIN in one PRINTING, in several, and in all of them");
+        PerfgaugeHouse z = house(2, 2);
+        for (int to = 0; to < 8; to++) {
+            int last = to;
+            z.plate(2, 2);
+            z.flaw(3, 5, 0, last);
+            z.piece(1, 1, 4, false);
+            z.seen(0, 0, 32, true);
+            due(3, () -> z.ofPiece(0, 4));
+            due(last + 1, () -> z.plating(4, 0));
+            due(true, () -> z.isSound());
+        }
         about("two objects are two houses: what is told to one is nothing to the other");
         PerfgaugeHouse one = new PerfgaugeHouse();
         PerfgaugeHouse other = new PerfgaugeHouse();
